@@ -385,8 +385,9 @@ public final class Trellis {
   public int wouldSift(int variable) throws IndexOutOfBoundsException {
     checkVariable(variable);
     int home = diagram.levelOf(variable);
-    int best = diagram.walk(variable);
-    diagram.move(variable, home);
+    diagram.lift(variable, 0);
+    int best = diagram.walk();
+    diagram.lift(variable, home);
     return best;
   }
 
@@ -451,8 +452,9 @@ public final class Trellis {
   }
 
   private int siftOne(int variable) {
-    int best = diagram.walk(variable);
-    diagram.move(variable, best);
+    diagram.lift(variable, 0);
+    int best = diagram.walk();
+    diagram.lift(variable, best);
     return best;
   }
 
@@ -732,11 +734,11 @@ public final class Trellis {
     }
 
     int countAt(int level) {
-      return level >= 0 && level < VARIABLES ? counts[level] : 0;
+      return isLevel(level) ? counts[level] : 0;
     }
 
     int variableOf(int level) {
-      return level >= 0 && level < VARIABLES ? order[level] : 0;
+      return isLevel(level) ? order[level] : 0;
     }
 
     int levelOf(int variable) {
@@ -754,8 +756,21 @@ public final class Trellis {
       return node >= FIRST && node < CAPACITY;
     }
 
-    private int bucketOf(int node) {
-      return bucketOf(levels[node], lows[node], highs[node]);
+    private static boolean isLevel(int level) {
+      return level >= 0 && level < VARIABLES;
+    }
+
+    // What tells 0 or 1 always stands below all levels, and stays itself whatever is put.
+    private int levelAt(int node) {
+      return isNode(node) ? levels[node] : VARIABLES;
+    }
+
+    private int lowOf(int node) {
+      return isNode(node) ? lows[node] : node;
+    }
+
+    private int highOf(int node) {
+      return isNode(node) ? highs[node] : node;
     }
 
     private static int bucketOf(int level, int low, int high) {
@@ -764,7 +779,10 @@ public final class Trellis {
     }
 
     private void link(int node) {
-      int bucket = bucketOf(node);
+      if (!isNode(node) || !isLevel(levels[node])) {
+        return;
+      }
+      int bucket = bucketOf(levels[node], lows[node], highs[node]);
       nexts[node] = buckets[bucket];
       buckets[bucket] = node;
       counts[levels[node]]++;
@@ -772,15 +790,20 @@ public final class Trellis {
     }
 
     private void unlink(int node) {
-      int bucket = bucketOf(node);
-      if (buckets[bucket] == node) {
+      if (!isNode(node) || !isLevel(levels[node])) {
+        return;
+      }
+      int bucket = bucketOf(levels[node], lows[node], highs[node]);
+      int at = buckets[bucket];
+      if (at == node) {
         buckets[bucket] = nexts[node];
-      } else {
-        int at = buckets[bucket];
-        for (int step = 0; step < CAPACITY && isNode(at) && nexts[at] != node; step++) {
-          at = nexts[at];
+      }
+      for (int step = 0; step < CAPACITY && isNode(at) && at != node; step++) {
+        int next = nexts[at];
+        if (next == node) {
+          nexts[at] = nexts[node];
         }
-        nexts[at] = nexts[node];
+        at = next;
       }
       counts[levels[node]]--;
       nodes--;
@@ -788,7 +811,7 @@ public final class Trellis {
 
     /** The node with these two functions below it, the function itself if they are the same. */
     private int make(int level, int low, int high) {
-      if (low == high) {
+      if (low == high || !isLevel(level)) {
         return low;
       }
       int node = buckets[bucketOf(level, low, high)];
@@ -798,11 +821,10 @@ public final class Trellis {
         }
         node = nexts[node];
       }
-      return isNode(free) ? makeNew(level, low, high) : 0;
-    }
-
-    private int makeNew(int level, int low, int high) {
-      int node = free;
+      if (!isNode(free)) {
+        return 0;
+      }
+      node = free;
       free = nexts[node];
       levels[node] = level;
       lows[node] = low;
@@ -837,6 +859,9 @@ public final class Trellis {
 
     /** The node of a function that depends on the variables of the set alone. */
     int build(Table f, int set) {
+      if (set < 0 || set >= ASSIGNMENTS) {
+        return 0;
+      }
       int x = 0;
       for (int i = 0; i < 1 << Integer.bitCount(set); i++) {
         rows[x] = f.tells(x) ? 1 : 0;
@@ -899,7 +924,7 @@ public final class Trellis {
       values[1] = 1;
       for (int i = 0; i < many; i++) {
         int node = list[i];
-        values[node] = values[lows[node]] + values[highs[node]];
+        values[node] = values[lowOf(node)] + values[highOf(node)];
       }
       return values[roots[slot]];
     }
@@ -910,7 +935,7 @@ public final class Trellis {
       values[1] = 0;
       for (int i = 0; i < many; i++) {
         int node = list[i];
-        values[node] = 1 + Math.max(values[lows[node]], values[highs[node]]);
+        values[node] = 1 + Math.max(values[lowOf(node)], values[highOf(node)]);
       }
       return values[roots[slot]];
     }
@@ -932,7 +957,7 @@ public final class Trellis {
         sinkIfFree(list[i], upper);
       }
       for (int i = 0; i < ups; i++) {
-        if (levels[list[i]] == upper) {
+        if (levelAt(list[i]) == upper) {
           turn(list[i], upper);
         }
       }
@@ -970,7 +995,7 @@ public final class Trellis {
 
     /** A node of the upper level goes down with its variable, if it has nothing of the lower. */
     private void sinkIfFree(int node, int upper) {
-      if (levels[lows[node]] != upper && levels[highs[node]] != upper) {
+      if (levelAt(lowOf(node)) != upper && levelAt(highOf(node)) != upper) {
         levels[node] = upper + 1;
         link(node);
       }
@@ -978,8 +1003,8 @@ public final class Trellis {
 
     /** A node that depends on both variables asks the other one first. */
     private void turn(int node, int upper) {
-      int low = lows[node];
-      int high = highs[node];
+      int low = lowOf(node);
+      int high = highOf(node);
       int newLow = make(upper + 1, half(low, upper, false), half(high, upper, false));
       int newHigh = make(upper + 1, half(low, upper, true), half(high, upper, true));
       point(newLow);
@@ -992,25 +1017,21 @@ public final class Trellis {
     }
 
     private int half(int node, int level, boolean isOne) {
-      if (levels[node] != level) {
+      if (levelAt(node) != level) {
         return node;
       }
-      return isOne ? highs[node] : lows[node];
+      return isOne ? highOf(node) : lowOf(node);
     }
 
-    void move(int variable, int target) {
-      int at = levelOf(variable);
-      for (; at > target && at > 0; at--) {
-        exchangeAt(at - 1);
-      }
-      for (; at < target && at < VARIABLES - 1; at++) {
-        exchangeAt(at);
+    /** Brings the variable up to a level that is not below its own. */
+    void lift(int variable, int target) {
+      for (int level = levelOf(variable); level > target && level > 0; level--) {
+        exchangeAt(level - 1);
       }
     }
 
-    /** Walks the variable through all levels, tells the best one, and leaves it at the last. */
-    int walk(int variable) {
-      move(variable, 0);
+    /** Walks what is at the level 0 through all levels to the last; tells the best one for it. */
+    int walk() {
       int best = 0;
       int least = LIMIT + 1;
       for (int level = 0; level < VARIABLES; level++) {
@@ -1027,6 +1048,7 @@ public final class Trellis {
   /** The least number of nodes that a function of few variables has in any ORDER of these. */
   private static final class Orders {
     private static final int SETS = 1 << FEW;
+    private static final int UNKNOWN = 1000;
 
     private final int[] least = new int[SETS];
     private final long[] parts = new long[SETS];
@@ -1042,7 +1064,7 @@ public final class Trellis {
     int leastNodes(long function, int many) {
       int sets = 1 << Math.min(many, FEW);
       for (int set = 1; set < sets; set++) {
-        least[set] = Integer.MAX_VALUE;
+        least[set] = UNKNOWN;
       }
       least[0] = 0;
       for (int set = 0; set < sets; set++) {
