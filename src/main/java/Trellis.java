@@ -722,8 +722,6 @@ public final class Trellis {
       for (int level = 0; level < VARIABLES; level++) {
         order[level] = level;
       }
-      levels[0] = VARIABLES;
-      levels[1] = VARIABLES;
       for (int node = FIRST; node < CAPACITY - 1; node++) {
         nexts[node] = node + 1;
       }
