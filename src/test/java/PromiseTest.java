@@ -1,87 +1,8 @@
-import java.util.function.LongSupplier;
-
 /**
  * Promise by promise: ordinary inputs, the edges that the document names, and wrong inputs. What
  * is due stands here as the document tells it, without a second program.
  */
-public final class PromiseTest {
-  private static final int[] NO_SLOTS = {-1, 12, 13, Integer.MIN_VALUE, Integer.MAX_VALUE};
-  private static final int[] NO_VARIABLES = {-1, 10, 11, 32, Integer.MIN_VALUE, Integer.MAX_VALUE};
-  private static final int[] NO_SETS = {-1, 1024, Integer.MIN_VALUE, Integer.MAX_VALUE};
-  private static final Class<?> INDEX = IndexOutOfBoundsException.class;
-  private static final Class<?> ARGUMENT = IllegalArgumentException.class;
-  private static final Class<?> STATE = IllegalStateException.class;
-  private static int wrong = 0;
-
-  private static void due(String what, long got, long want) {
-    if (got != want) {
-      wrong++;
-      System.out.println(what + " answered " + got + ", due is " + want);
-    }
-  }
-
-  private static void due(String what, boolean got, boolean want) {
-    due(what, got ? 1 : 0, want ? 1 : 0);
-  }
-
-  private static String stateOf(Trellis t) {
-    StringBuilder b = new StringBuilder();
-    b.append(t.digest()).append(' ').append(t.meanSize());
-    for (int k = 0; k < 10; k++) {
-      b.append(' ').append(t.variableAt(k));
-    }
-    for (int s = 0; s < 12; s++) {
-      for (int x = 0; x < 1024; x++) {
-        b.append(t.holds(s, x) ? '1' : '0');
-      }
-    }
-    return b.toString();
-  }
-
-  private static void refuses(String what, Trellis t, Class<?> kind, LongSupplier call) {
-    String before = stateOf(t);
-    String got = "nothing";
-    try {
-      call.getAsLong();
-    } catch (RuntimeException e) {
-      got = e.getClass().getName();
-    }
-    if (!got.equals(kind.getName())) {
-      wrong++;
-      System.out.println(what + " throws " + got + ", due is " + kind.getName());
-    }
-    unchanged(what, t, before);
-  }
-
-  private static void unchanged(String what, Trellis t, String before) {
-    if (!stateOf(t).equals(before)) {
-      wrong++;
-      System.out.println(what + " has changed something");
-    }
-  }
-
-  private interface Rule {
-    boolean tells(int x);
-  }
-
-  private static void tells(String what, Trellis t, int slot, Rule rule) {
-    for (int x = 0; x < 1024; x++) {
-      if (t.holds(slot, x) != rule.tells(x)) {
-        wrong++;
-        System.out.println(what + " tells another thing for " + x);
-        return;
-      }
-    }
-  }
-
-  private static int bit(int x, int v) {
-    return (x >> v) & 1;
-  }
-
-  private static boolean one(int x, int v) {
-    return bit(x, v) == 1;
-  }
-
+public final class PromiseTest extends Checks {
   // ---- stores to begin with
 
   /** The variable k in each slot k from 0 to 9; the slots 10 and 11 tell 0. */
@@ -1177,9 +1098,6 @@ public final class PromiseTest {
     means();
     digests();
     above400();
-    System.out.println(wrong == 0 ? "all promises hold" : wrong + " answers are not as due");
-    if (wrong != 0) {
-      System.exit(1);
-    }
+    end("PromiseTest");
   }
 }

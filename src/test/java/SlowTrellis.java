@@ -1,6 +1,8 @@
 import java.util.ArrayList;
+import java.util.Arrays;
 import java.util.HashMap;
 import java.util.HashSet;
+import java.util.IdentityHashMap;
 import java.util.List;
 import java.util.Map;
 import java.util.Set;
@@ -24,6 +26,31 @@ final class SlowTrellis {
     for (int k = 0; k < VARS; k++) {
       order[k] = k;
     }
+  }
+
+  /** Another store with the same functions, order and costs. */
+  SlowTrellis copy() {
+    SlowTrellis other = new SlowTrellis();
+    other.f = f.clone();
+    other.order = order.clone();
+    other.cost = cost.clone();
+    return other;
+  }
+
+  /** The same text as Checks.stateOf() makes of a Trellis. */
+  String state() {
+    StringBuilder b = new StringBuilder();
+    b.append(total()).append(' ').append(meanSize());
+    for (int k = 0; k < VARS; k++) {
+      b.append(' ').append(order[k]).append(' ').append(nodesAt(k)).append(' ').append(cost[k]);
+    }
+    for (int s = 0; s < SLOTS; s++) {
+      b.append(' ').append(size(s)).append(' ').append(support(s)).append(' ');
+      for (int x = 0; x < ALL; x++) {
+        b.append(f[s][x] ? '1' : '0');
+      }
+    }
+    return b.append(' ').append(digest()).toString();
   }
 
   interface Rule {
@@ -66,14 +93,28 @@ final class SlowTrellis {
 
   // ---- diagrams, as section 2 tells them
 
-  /** The function as a text in the order of the levels: level 0 halves it, and so on. */
+  private static int[] textOrder = {};
+  private static int[] textPlaces = {};
+
+  /** The assignment for each place of a text in this order: level 0 halves it, and so on. */
+  private static int[] places(int[] order) {
+    if (!Arrays.equals(order, textOrder)) {
+      int[] places = new int[1 << order.length];
+      for (int i = 0; i < places.length; i++) {
+        for (int level = 0; level < order.length; level++) {
+          places[i] |= ((i >> (order.length - 1 - level)) & 1) << order[level];
+        }
+      }
+      textOrder = order.clone();
+      textPlaces = places;
+    }
+    return textPlaces;
+  }
+
+  /** The function as a text in the order of the levels. */
   private static String text(boolean[] f, int[] order) {
     StringBuilder s = new StringBuilder();
-    for (int i = 0; i < 1 << order.length; i++) {
-      int x = 0;
-      for (int level = 0; level < order.length; level++) {
-        x |= ((i >> (order.length - 1 - level)) & 1) << order[level];
-      }
+    for (int x : places(order)) {
       s.append(f[x] ? '1' : '0');
     }
     return s.toString();
@@ -83,12 +124,10 @@ final class SlowTrellis {
     Set<String> all = new HashSet<>();
     String s = text(f, order);
     for (int level = 0; level < order.length; level++) {
-      int length = s.length() >> level;
-      for (int p = 0; p < s.length(); p += length) {
-        String low = s.substring(p, p + length / 2);
-        String high = s.substring(p + length / 2, p + length);
-        if (!low.equals(high)) {
-          all.add(level + ":" + low + high);
+      int half = s.length() >> level + 1;
+      for (int low = 0; low < s.length(); low += 2 * half) {
+        if (!s.regionMatches(low, s, low + half, half)) {
+          all.add(level + ":" + s.substring(low, low + 2 * half));
         }
       }
     }
@@ -103,23 +142,35 @@ final class SlowTrellis {
     return all;
   }
 
-  // What was found last, as long as neither a function nor the order is another one.
-  private Set<String> known;
-  private boolean[][] knownFor;
-  private int[] knownOrder;
+  // What was found in the present order; the tables are never written once they are in a slot.
+  private final Map<boolean[], Set<String>> found = new IdentityHashMap<>();
+  private int[] foundOrder;
+
+  private Set<String> nodesNow(int slot) {
+    if (foundOrder != order) {
+      found.clear();
+      foundOrder = order;
+    }
+    return found.computeIfAbsent(f[slot], g -> nodes(g, order));
+  }
+
+  private Set<String> together;
+  private boolean[][] togetherOf;
 
   private Set<String> allNodesNow() {
-    if (known == null || knownOrder != order || !java.util.Arrays.equals(knownFor, f)) {
-      known = allNodes(order);
-      knownOrder = order;
-      knownFor = f.clone();
+    if (together == null || foundOrder != order || !Arrays.equals(togetherOf, f)) {
+      together = new HashSet<>();
+      for (int s = 0; s < SLOTS; s++) {
+        together.addAll(nodesNow(s));
+      }
+      togetherOf = f.clone();
     }
-    return known;
+    return together;
   }
 
   long size(int a) {
     slot(a);
-    return nodes(f[a], order).size();
+    return nodesNow(a).size();
   }
 
   long total() {
@@ -139,9 +190,25 @@ final class SlowTrellis {
 
   long shared(int a, int b) {
     slot(a, b);
-    Set<String> s = nodes(f[a], order);
-    s.retainAll(nodes(f[b], order));
-    return s.size();
+    Set<String> both = new HashSet<>(nodesNow(a));
+    both.retainAll(nodesNow(b));
+    return both.size();
+  }
+
+  /** What TOTAL would be, if one more slot had this function. */
+  int totalWith(boolean[] g) {
+    Set<String> all = allNodes(order);
+    all.addAll(nodes(g, order));
+    return all.size();
+  }
+
+  /** What TOTAL would be with the variable at each level, the others in their order. */
+  int[] totalsOf(int v) {
+    int[] totals = new int[VARS];
+    for (int level = 0; level < VARS; level++) {
+      totals[level] = allNodes(moved(v, level)).size();
+    }
+    return totals;
   }
 
   private static int walk(String s, boolean longest) {
