@@ -235,6 +235,28 @@ public final class LimitTest extends Checks {
     both.sameState("a sift at 400");
   }
 
+  /** No other level counts, or none is better: each variable stays, and does not go to level 0. */
+  private static void staysAt400() {
+    Both both = Both.mixed(1151, 150);
+    both.call(Call.SETTLE);
+    both.call(Call.AT_LEAST, 10, 7, 1);
+    due("TOTAL", both.fast.total(), 400);
+    int alone = 0;
+    for (int level = 1; level < 9; level++) {
+      int v = both.fast.variableAt(level);
+      int counted = 0;
+      for (int total : both.slow.totalsOf(v)) {
+        counted += total <= 400 ? 1 : 0;
+      }
+      alone += counted == 1 ? 1 : 0;
+      due("wouldSift at 400", both.call(Call.WOULD_SIFT, v), String.valueOf(level));
+      due("sift at 400", both.call(Call.SIFT, v), String.valueOf(level));
+      due("TOTAL", both.fast.total(), 400);
+    }
+    due("for some no other level counts", alone > 0, true);
+    both.sameState("sifts that stay at 400");
+  }
+
   /** Settling lets variables pass levels that do not count, and ends as the slow one does. */
   private static void settles(long seed, int calls, int total, int then, int... order) {
     Both both = Both.mixed(seed, calls);
@@ -267,6 +289,8 @@ public final class LimitTest extends Checks {
         LimitTest::siftsPastLevelsThatDoNotCount);
     sentence("those count for which TOTAL would not be above 400: 400 is not",
         LimitTest::siftsWhereAllLevelsTell400);
+    sentence("those count for which TOTAL would not be above 400: its own level, at 400",
+        LimitTest::staysAt400);
     sentence("SETTLE lets the variables SIFT, also past levels that do not count", () ->
         settles(36, 150, 399, 293, 1, 6, 4, 3, 9, 7, 8, 0, 5, 2));
     end("LimitTest");
