@@ -922,9 +922,9 @@ public final class Trellis {
       values[1] = 1;
       for (int i = 0; i < many; i++) {
         int node = list[i];
-        values[node] = values[lowOf(node)] + values[highOf(node)];
+        setValue(node, valueOf(lowOf(node)) + valueOf(highOf(node)));
       }
-      return values[roots[slot]];
+      return valueOf(roots[slot]);
     }
 
     int longestPath(int slot) {
@@ -933,9 +933,19 @@ public final class Trellis {
       values[1] = 0;
       for (int i = 0; i < many; i++) {
         int node = list[i];
-        values[node] = 1 + Math.max(values[lowOf(node)], values[highOf(node)]);
+        setValue(node, 1 + Math.max(valueOf(lowOf(node)), valueOf(highOf(node))));
       }
-      return values[roots[slot]];
+      return valueOf(roots[slot]);
+    }
+
+    private int valueOf(int node) {
+      return node >= 0 && node < CAPACITY ? values[node] : 0;
+    }
+
+    private void setValue(int node, int value) {
+      if (isNode(node)) {
+        values[node] = value;
+      }
     }
 
     // ---- ordering
@@ -986,6 +996,9 @@ public final class Trellis {
 
     /** A node of the lower level goes up with its variable; it is held until all are turned. */
     private void raise(int node, int upper) {
+      if (!isNode(node)) {
+        return;
+      }
       levels[node] = upper;
       pointers[node]++;
       link(node);
@@ -993,7 +1006,7 @@ public final class Trellis {
 
     /** A node of the upper level goes down with its variable, if it has nothing of the lower. */
     private void sinkIfFree(int node, int upper) {
-      if (levelAt(lowOf(node)) != upper && levelAt(highOf(node)) != upper) {
+      if (isNode(node) && levelAt(lowOf(node)) != upper && levelAt(highOf(node)) != upper) {
         levels[node] = upper + 1;
         link(node);
       }
@@ -1001,6 +1014,9 @@ public final class Trellis {
 
     /** A node that depends on both variables asks the other one first. */
     private void turn(int node, int upper) {
+      if (!isNode(node)) {
+        return;
+      }
       int low = lowOf(node);
       int high = highOf(node);
       int newLow = make(upper + 1, half(low, upper, false), half(high, upper, false));
